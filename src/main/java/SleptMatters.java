@@ -581,7 +581,7 @@ public final class SleptMatters {
         }
     }
 
-    /** What changes from night to night: of matters who slept, where, how it ended, who is laid; an image is one, too. */
+    /** What changes from night to night, matter by matter: who slept, where, how it ended, who is laid. */
     private static final class Course {
         final int[] sleepers = new int[MOST_MATTERS];
         final int[] houses = new int[MOST_MATTERS];
@@ -836,7 +836,7 @@ public final class SleptMatters {
 
     /**
      * Rows of nights. All is worked out from the last day backwards, SET of sleepers by SET of sleepers: so one pass
-     * tells, for each of these, whether they can take the last days up to an end, and from it the first row can be read.
+     * tells, for each of these, whether they can take the last days up to an end, and the first row is read from it.
      */
     private static final class Rows {
         final int[] rowSleepers = new int[MOST_NIGHTS];
@@ -847,7 +847,7 @@ public final class SleptMatters {
         // By end: how long a row can be (NONE: not looked at yet), and bit by bit which SETs of sleepers have one.
         private final int[] longest = new int[DAYS];
         private final long[] able = new long[DAYS * 2];
-        // By SET of sleepers: bit by bit with which SETs of houses they take the last days; high: those with the last house.
+        // By SET of sleepers: bit by bit with which SETs of houses they take the last days; high: with the last house.
         private final long[] low = new long[SETS];
         private final long[] high = new long[SETS];
         // By days to the end and by sleeper: the SET of houses that may be slept in.
@@ -1051,7 +1051,7 @@ public final class SleptMatters {
         }
     }
 
-    /** The cheapest or the likeliest row: its sum or odds, its end, its SET of sleepers, all NONE if there is no row. */
+    /** The cheapest or the likeliest row: its sum or odds, its end, its SET of sleepers; all NONE if there is none. */
     private static final class Choice {
         int value = NONE;
         int end = NONE;

@@ -104,6 +104,11 @@ public final class BooksTest {
         Due.is("goBack: the image did not go on", x.told(6), 1);
         Due.is("goBack to the other", x.goBack(0), 1);
         Due.is("goBack: decided", x.matter(1, 6) * 10 + x.matter(1, 7), 11);
+        Due.is("goBack: its dreams", x.matter(1, 5), 1);
+        x.begin();
+        Due.is("begin: no dreams", x.matter(1, 5), 0);
+        x.goBack(1);
+        Due.is("goBack: dreams come back", x.matter(1, 5), 1);
         x.begin();
         x.keep(0);
         x.run(1);

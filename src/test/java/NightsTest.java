@@ -10,6 +10,7 @@ public final class NightsTest {
         nightsAreLost();
         nightByLawAsItIsNow();
         draws();
+        drawOfNought();
         run();
         runBesideLaid();
         begin();
@@ -167,6 +168,22 @@ public final class NightsTest {
         x.night();
         long seed = (2147483647L * 1103515245L + 12345L) % 2147483648L;
         Due.is("draws: from the greatest", x.seed(0), seed);
+    }
+
+    private static void drawOfNought() {
+        SleptMatters x = Due.with("house 0 1;sleeper 0 0 0;matter 0 9 1 1;", "nights 1;yes 1;");
+        x.run(1);
+        Due.is("draws: 0 is not below 0", x.matter(0, 6), 2);
+        x = Due.with("house 0 1;sleeper 0 1 0;matter 0 9 1 1;", "nights 1;yes 1;");
+        x.run(1);
+        Due.is("draws: 0 is below 1", x.matter(0, 6), 1);
+        // From 1 the first draw is 16838: 38 of a hundred.
+        for (int y = 38; y < 40; y++) {
+            x = Due.with("house 0 1;sleeper 0 " + y + " 0;matter 0 9 1 1;", "nights 1;yes 1;");
+            x.seed(1);
+            x.run(1);
+            Due.is("draws: 38 below " + y, x.matter(0, 6), y == 38 ? 2 : 1);
+        }
     }
 
     private static void run() {

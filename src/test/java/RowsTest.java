@@ -52,6 +52,13 @@ public final class RowsTest {
         row("house 0 is kept for day 1", x, 0, 2, 0, 1, 1, 0, 2, 2);
         x = Due.with("house 0 1;house 0 1;sleeper 9 0 0;sleeper 0 0 0;noise 0 1 1 1;matter 0 9 1 1;", "nights 2;");
         row("sleeper 0 is kept for day 1", x, 0, 1, 1, 0, 0, 1);
+        x = Due.with(Due.times(6, "house 0 1;") + "house 1 1;sleeper 0 0 0;sleeper 9 0 0;noise 0 0 0 5;noise 0 1 1 9;noise 0 1 1 9;"
+            + "matter 0 9 1 1;", "nights 2;");
+        row("house 6 is kept for day 1", x, 0, 1, 1, 0, 0, 6);
+        x = Due.with("house 0 1;sleeper 0 0 0;noise 0 0 20 1;noise 0 40 60 1;matter 0 9 1 1;", "nights 1;");
+        row("calm behind many loud days", x, 0, 21, 0, 0);
+        x.run(40);
+        row("loud behind many calm days", x, 0, 61, 0, 0);
         x = Due.with(THREE + "noise 0 0 99 1;matter 0 9 1 1;", "nights 3;");
         row("a house is never calm", x, 0, SleptMatters.NONE);
         x = Due.with(THREE + "noise 0 2 2 1;noise 1 2 2 1;noise 2 2 2 1;matter 0 9 1 1;", "nights 3;");
@@ -94,6 +101,19 @@ public final class RowsTest {
         x = Due.with(light.replace("50", "1") + "matter 0 7 1 1;", "nights 2;");
         Due.is("like ones: sooner end", x.cheapest(0, 1), 1);
         Due.is("like ones: set", x.cheapest(0, 2), 3);
+        String seven = Due.times(7, "house 0 1;") + Due.times(4, "sleeper 0 0 9;") + Due.times(3, "sleeper 0 0 2;");
+        x = Due.with(seven + "matter 0 9 1 1;", "nights 3;");
+        Due.is("the last ones", x.cheapest(0, 2), 112);
+        Due.town(x, THREE + "matter 3 9 1 1;");
+        Due.is("another town: set", x.cheapest(0, 2), 7);
+        Due.town(x, seven + "noise 0 2 2 1;matter 0 9 1 1;");
+        Due.is("one more town: end", x.cheapest(0, 1), 5);
+        Due.town(x, seven.replace(" 9;", " 1;") + "matter 0 9 1 1;");
+        Due.laws(x, "nights 4;");
+        Due.is("the first ones: sum", x.cheapest(0, 0), 4);
+        Due.is("the first ones: set", x.cheapest(0, 2), 15);
+        Due.laws(x, "nights 7;");
+        Due.is("all of them", x.cheapest(0, 2), 127);
         x = Due.with("house 0 1;sleeper 0 0 4;sleeper 9 0 4;sleeper 9 0 4;noise 0 0 0 1;matter 0 7 1 1;", "nights 1;");
         Due.is("sooner is ahead of the lesser set", x.cheapest(0, 2), 2);
     }
@@ -121,6 +141,9 @@ public final class RowsTest {
         Due.is("more than there are: the soonest", x.likeliest(0, 1), 1);
         Due.laws(x, "nights 2;yes 7;");
         Due.is("far more than there are", x.likeliest(0, 0), 0);
+        x = Due.with(Due.times(7, "house 0 1;sleeper 0 100 0;") + "matter 0 9 1 1;", "nights 7;yes 7;");
+        Due.is("seven of seven", x.likeliest(0, 0), 1000000);
+        Due.is("seven of seven: set", x.likeliest(0, 2), 127);
     }
 
     private static void oddsAreCut() {
@@ -161,6 +184,17 @@ public final class RowsTest {
         Due.is("together: one bed", x.together(0), 7);
         x = Due.with("house 0 2;house 0 2;sleeper 0 0 0;matter 0 0 5 0;matter 0 0 7 0;", "nights 1;");
         Due.is("together: one sleeper", x.together(0), 7);
+        x = Due.with("house 0 4;house 0 4;sleeper 9 0 0;sleeper 0 0 0;sleeper 0 0 0;noise 0 0 0 1;matter 0 1 9 0;matter 0 1 9 0;", "nights 2;");
+        Due.is("together: who alone can sleep on day 0 is taken", x.together(12), SleptMatters.NONE);
+        x = Due.with("house 0 1;house 1 4;house 1 4;" + Due.times(4, "sleeper 0 0 0;") + "noise 1 0 0 1;matter 0 1 9 0;matter 0 1 9 0;", "nights 2;");
+        Due.is("together: the bed that alone is calm on day 0 is taken", x.together(12), SleptMatters.NONE);
+        x = Due.with("house 0 4;house 0 1;sleeper 0 0 0;sleeper 0 0 0;matter 0 9 9 1;matter 0 9 9 1;matter 0 9 9 1;", "nights 1;");
+        Due.is("together: two sleepers for three", x.together(0), 27 - 1);
+        x = Due.with("house 0 2;sleeper 0 0 0;sleeper 0 0 0;sleeper 0 0 0;matter 0 9 9 1;matter 0 9 9 1;matter 0 9 9 1;", "nights 1;");
+        Due.is("together: two beds for three", x.together(13), 1);
+        x = Due.with("house 0 1;house 0 1;sleeper 0 0 0;sleeper 0 0 0;matter 2 9 9 1;matter 0 9 9 0;matter 1 9 9 3;", "nights 2;");
+        // 2 on days 1 and 2; 0 on 2 and 3 with those that are left there; 1 on 3 and 4, or ahead of all on 0 and 1.
+        Due.is("together: rows that lap", x.together(0), 27 - 1 - 3);
         Due.is("together: no matters", Due.with(shared, "").together(0), 0);
         Due.is("together: no order of none", Due.with(shared, "").together(1), SleptMatters.OUTSIDE);
     }

@@ -111,6 +111,8 @@ public final class TextsTest {
         townFault("house  ", 1, 7);
         townFault("hous 0 1;", 1, 0);
         townFault("houses 0 1;", 1, 0);
+        townFault("mouse 0 1;", 1, 0);
+        townFault("x house 0 1;", 1, 0);
         townFault("House 0 1;", 1, 0);
         townFault("houSe 0 1;", 1, 0);
         townFault("hou se 0 1;", 1, 0);
@@ -180,6 +182,11 @@ public final class TextsTest {
         Due.is("untold: again", x.told(5), 1);
         Due.is("again", Due.laws(x, " again ; "), 1);
         Due.is("again: yes is half and 1", x.told(4), 4);
+        Due.laws(x, "on;");
+        Due.laws(x, "on;yes 5;nights 2;");
+        Due.laws(x, "");
+        Due.is("untold behind 'on' twice", x.told(5), 1);
+        Due.is("untold behind 'yes'", x.told(4), 4);
         Due.feed(x, "on;" + Due.times(198, " "));
         Due.is("201 bytes", x.laws(), SleptMatters.NOT);
         Due.is("201 bytes: text stays", x.told(8), 201);
@@ -257,6 +264,11 @@ public final class TextsTest {
         x.lay(0, 1, 0);
         x.night();
         Due.is("score: no, at A", x.told(10), -6);
+        x = Due.with("house 0 1;sleeper 9 100 5;matter 1 2 100 3;", "nights 1;");
+        x.night();
+        x.night();
+        x.run(1);
+        Due.is("score: yes, at Z", x.told(10), 100 - 3 - 5);
     }
 
     private static void houseSleeperMatter() {
@@ -286,9 +298,14 @@ public final class TextsTest {
 
     private static void noise() {
         SleptMatters x = Due.with(SMALL, "");
-        int[][] due = {{0, 1, 0}, {0, 2, 4}, {0, 3, 4}, {0, 4, 9}, {0, 5, 5}, {0, 99, 5}, {0, 100, 0}, {0, 999, 0}, {1, 3, 0}, {3, 4, 0}};
+        int[][] due = {{0, 0, 0}, {0, 1, 0}, {0, 2, 4}, {0, 3, 4}, {0, 4, 9}, {0, 5, 5}, {0, 99, 5}, {0, 100, 0}, {0, 999, 0}, {1, 3, 0}, {3, 4, 0}};
         for (int[] d : due) Due.is("noise " + d[0] + " " + d[1], x.noise(d[0], d[1]), d[2]);
         int[][] outside = {{-1, 0}, {4, 0}, {0, -1}, {0, 1000}, {Integer.MAX_VALUE, Integer.MAX_VALUE}};
         for (int[] d : outside) Due.is("noise " + d[0] + " " + d[1], x.noise(d[0], d[1]), SleptMatters.OUTSIDE);
+        for (int i = 1; i < 4; i++) {
+            Due.town(x, "noise 3 0 0 " + i + ";");
+            Due.is("noise of another town", x.noise(3, 0), i);
+            Due.is("noise of the town ahead is gone", x.noise(0, 4), 0);
+        }
     }
 }
